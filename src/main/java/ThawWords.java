@@ -190,8 +190,11 @@ public final class ThawWords {
     public int hours(int sound, int place, int hour) {
         if (!known.isSound(sound) || !known.isPlace(place) || !isHour(hour)) return BAD;
         int bits = 0;
-        for (int i = 0; i < HOURS_TO_SAY && now.hour + i <= LAST_HOUR; i++) {
-            if (now.firstThaw(known, sound, place, now.hour + i) == hour) bits |= 1 << i;
+        // Backwards from the told hour, as long as no hour ahead of it melts the sound.
+        for (int h = hour; h >= now.hour; h--) {
+            boolean melts = now.isThawing(known, sound, place, h);
+            if (melts != (h == hour)) return bits;
+            if (h - now.hour < HOURS_TO_SAY) bits |= 1 << (h - now.hour);
         }
         return bits;
     }
@@ -725,6 +728,7 @@ public final class ThawWords {
             return hasBit(lanterns, place);
         }
 
+        // Only NOW has lanterns: they go out as the hour goes by.
         int airIn(Cape cape, int place, int inHour) {
             int air = cape.airIn(place, inHour);
             return inHour == hour && isLit(place) ? air + LANTERN_WARMTH : air;
@@ -794,11 +798,10 @@ public final class ThawWords {
         }
 
         private int thawSaying(Cape cape, int k, Saying s) {
-            int air = airIn(cape, s.where, hour);
             int melted = 0;
             for (int i = 0; i < s.length; i++) {
                 int sound = at(s.sounds, i);
-                if (!s.hangs(i) || at(cape.melt, sound) > air) continue;
+                if (!s.hangs(i) || !isThawing(cape, sound, s.where, hour)) continue;
                 put(s.heardIn, i, hour);
                 hearAt(s.where, k, sound);
                 melted++;
@@ -815,16 +818,14 @@ public final class ThawWords {
 
         int hourOfHearing(Cape cape, Saying s, int i) {
             if (!s.hangs(i)) return at(s.heardIn, i);
-            return firstThaw(cape, at(s.sounds, i), s.where, hour + 1);
-        }
-
-        // Only NOW has lanterns: they go out as the hour goes by.
-        int firstThaw(Cape cape, int sound, int place, int from) {
-            int melt = at(cape.melt, sound);
-            for (int h = from; h <= LAST_HOUR; h++) {
-                if (airIn(cape, place, h) >= melt) return h;
+            for (int h = hour + 1; h <= LAST_HOUR; h++) {
+                if (isThawing(cape, at(s.sounds, i), s.where, h)) return h;
             }
             return NONE;
+        }
+
+        boolean isThawing(Cape cape, int sound, int place, int inHour) {
+            return at(cape.melt, sound) <= airIn(cape, place, inHour);
         }
 
         int placesOfHanging(int told) {

@@ -8,6 +8,7 @@ public final class KindsTest {
         traceGoesOn();
         images();
         imagesAreOfTheirOwn();
+        imagesKeepEachSaying();
         c.end();
     }
 
@@ -120,5 +121,28 @@ public final class KindsTest {
         c.due("to the other one", x.keep(0), 3);
         x.anew();
         c.due("behind anew", x.back(0), 3);
+    }
+
+    private static void imagesKeepEachSaying() {
+        ThawWords x = Check.capeOf("place 0;place 1;sound 5;cold 5;cold 4;person 3 1;person 4 1;person 3 0;");
+        x.go(7);
+        x.says(1, 6, 231);
+        x.keep(0);
+        x.anew();
+        x.says(2, 2, 1);
+        x.says(2, 9, 3333);
+        x.says(0, 9, 2222);
+        c.due("back(0)", x.back(0), 7);
+        int[] told = {1, 1, 7, 6, 3, 1};
+        for (int what = 0; what < 6; what++) c.due("saying(0, " + what + ")", x.saying(0, what), told[what]);
+        int[] sounds = {1, 2, 0, -5};
+        for (int i = 0; i < 4; i++) c.due("soundOf(0, " + i + ")", x.soundOf(0, i), sounds[i]);
+        int[] heard = {1, 2, -5};
+        for (int i = 0; i < 3; i++) c.due("heard(0, " + i + ", 1)", x.heard(0, i, 1), heard[i]);
+        c.due("heard(0, 0, 0)", x.heard(0, 0, 0), 0);
+        c.due("heard(2, 0, 0)", x.heard(2, 0, 0), -5);
+        c.due("when(0, 0)", x.when(0, 0), 7);
+        c.due("spoke(0)", x.spoke(0), 3);
+        c.due("place(1, 2)", x.place(1, 2), 1);
     }
 }
