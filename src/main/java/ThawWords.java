@@ -493,8 +493,8 @@ public final class ThawWords {
         }
 
         private int endOfRow(int from, int lowest, int highest) {
-            for (int i = from; i < length; i++) {
-                if (at(bytes, i) < lowest || at(bytes, i) > highest) return i;
+            for (int i = Math.max(from, 0); i < length && i < bytes.length; i++) {
+                if (bytes[i] < lowest || bytes[i] > highest) return i;
             }
             return length;
         }
@@ -761,7 +761,7 @@ public final class ThawWords {
             s.standers = standersAt(s.where);
             s.setSounds(figures);
             // None of it hung before: what the air bears is heard at once, in its order.
-            thawSaying(cape, k, s);
+            thawSaying(cape, k, s, airIn(cape, s.where, hour));
             return k;
         }
 
@@ -787,21 +787,23 @@ public final class ThawWords {
         }
 
         private int thawAt(Cape cape, int place) {
+            int air = airIn(cape, place, hour);
             int melted = 0;
             for (int loud = LOUDEST; loud >= 1; loud--) {
                 for (int k = 0; k < sayingCount; k++) {
                     Saying s = sayingAt(k);
-                    if (s != null && s.where == place && s.loud == loud) melted += thawSaying(cape, k, s);
+                    if (s == null || s.where != place || s.loud != loud) continue;
+                    melted += thawSaying(cape, k, s, air);
                 }
             }
             return melted;
         }
 
-        private int thawSaying(Cape cape, int k, Saying s) {
+        private int thawSaying(Cape cape, int k, Saying s, int air) {
             int melted = 0;
             for (int i = 0; i < s.length; i++) {
                 int sound = at(s.sounds, i);
-                if (!s.hangs(i) || !isThawing(cape, sound, s.where, hour)) continue;
+                if (!s.hangs(i) || at(cape.melt, sound) > air) continue;
                 put(s.heardIn, i, hour);
                 hearAt(s.where, k, sound);
                 melted++;
