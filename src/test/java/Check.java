@@ -10,6 +10,10 @@ final class Check {
         System.out.println(call + " answered " + got + ", due is " + want);
     }
 
+    int asked() {
+        return asked;
+    }
+
     // Prints what came of it, and ends the program with 1 if an answer was wrong.
     void end() {
         System.out.println(asked + " answers asked, " + wrong + " wrong");
