@@ -521,7 +521,14 @@ public final class EdgesCapeTest {
                 fault("place 1; " + word + " 1;", 9);
             }
         });
-        t.edge(4, TOKENS, "a word in other letters", () -> {
+        t.edge(4, TOKENS, "a word with one other letter", () -> {
+            for (String word : new String[] {"place", "frost", "warm", "cold", "sound", "person"}) {
+                for (int i = 0; i < word.length(); i++) {
+                    fault(word.substring(0, i) + "q" + word.substring(i + 1) + " 1;", 0);
+                }
+            }
+        });
+        t.edge(4, TOKENS, "a word in capitals", () -> {
             fault("Place 1;", 0);
             fault("PLACE 1;", 0);
             fault("plaCe 1;", 0);

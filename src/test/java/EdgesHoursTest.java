@@ -153,6 +153,7 @@ public final class EdgesHoursTest {
             t.due("person(0, 2)", x.person(0, 2), 8);
             x.go(5);
             t.due("says(0, 1, 1) hours later", x.says(0, 1, 1), FULL);
+            t.due("now(2)", x.now(2), 8);
         });
         t.edge(9, ORDER, "BAD is ahead of FULL", () -> {
             ThawWords x = twoPlaces();

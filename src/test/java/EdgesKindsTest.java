@@ -300,6 +300,22 @@ public final class EdgesKindsTest {
             t.due("person(0, 2) behind back(1)", x.person(0, 2), 2);
             t.due("when(0, 0) behind back(1)", x.when(0, 0), 0);
         });
+        t.edge(28, KEEP_NOW, "what was HEARD, though other things were heard since", () -> {
+            ThawWords x = Check.capeOf("place 0;sound 0;cold 1;person 1 0;");
+            x.says(0, 1, 1);
+            x.says(0, 1, 21);
+            x.keep(0);
+            x.anew();
+            x.says(0, 1, 2122);
+            x.back(0);
+            int[] sayings = {0, 1, 1};
+            int[] sounds = {0, 1, 0};
+            t.due("person(0, 2)", x.person(0, 2), 3);
+            for (int i = 0; i < 3; i++) {
+                t.due("heard(0, " + i + ", 0)", x.heard(0, i, 0), sayings[i]);
+                t.due("heard(0, " + i + ", 1)", x.heard(0, i, 1), sounds[i]);
+            }
+        });
         t.edge(28, KEEP_NOW, "where all stand", () -> {
             ThawWords x = said();
             x.goes(0, 1);

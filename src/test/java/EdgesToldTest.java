@@ -476,6 +476,16 @@ public final class EdgesToldTest {
             t.due("lanterns(1 | 2, 0)", x.lanterns(3, 0), NONE);
             t.due("lanterns(1 | 4, 0)", x.lanterns(5, 0), NONE);
         });
+        t.edge(22, LANTERNS, "those ahead of it HANG elsewhere", () -> {
+            ThawWords x = threePlaces();
+            x.says(1, 1, 1);
+            x.says(0, 1, 3);
+            x.says(0, 1, 2);
+            x.says(0, 1, 2);
+            t.due("lanterns(2, 0)", x.lanterns(2, 0), NONE);
+            t.due("lanterns(4, 8)", x.lanterns(4, 8), NONE);
+            t.due("lanterns(4, 1 | 2)", x.lanterns(4, 3), 1);
+        });
         t.edge(22, LANTERNS, "at several PLACES, the last one, too", () -> {
             ThawWords x = threePlaces();
             x.says(0, 1, 1);
