@@ -466,6 +466,11 @@ public final class EdgesHoursTest {
             hears(x, 2, 0, 2);
             t.due("now(1)", x.now(1), 1);
         });
+        t.edge(11, MELTING, "a longer one HUNG there ahead of anew()", () -> {
+            ThawWords x = longerAheadOfAnew();
+            t.due("lantern(0)", x.lantern(0), 1);
+            hears(x, 2);
+        });
         t.edge(11, MELTING, "MELT AIR at most: AIR, and one above", () -> {
             ThawWords x = Check.capeOf("place 0;sound 5;sound 6;person 1 0;");
             x.says(0, 1, 21);
@@ -617,6 +622,15 @@ public final class EdgesHoursTest {
         return x;
     }
 
+    // SAYING 0 has one SOUND, where one of four HUNG; a LANTERN melts it.
+    private static ThawWords longerAheadOfAnew() {
+        ThawWords x = frozen();
+        x.says(0, 1, 1111);
+        x.anew();
+        x.says(0, 1, 3);
+        return x;
+    }
+
     private static void saying() {
         String saying = "Of a SAYING: 0 who said it, 1 where, 2 in which HOUR, 3 LOUD, 4 how many SOUNDS, 5 how many still HANG. BAD.";
         t.edge(13, saying, "k below 0", () -> {
@@ -647,6 +661,13 @@ public final class EdgesHoursTest {
             t.due("saying(1, 5)", x.saying(1, 5), 0);
             x.says(0, 1, 2222);
             t.due("saying(2, 5)", x.saying(2, 5), 4);
+        });
+        t.edge(13, saying, "a longer one HUNG there ahead of anew()", () -> {
+            ThawWords x = longerAheadOfAnew();
+            t.due("saying(0, 4)", x.saying(0, 4), 1);
+            t.due("saying(0, 5)", x.saying(0, 5), 1);
+            t.due("now(1)", x.now(1), 1);
+            t.due("place(0, 2)", x.place(0, 2), 1);
         });
         t.edge(13, saying, "said in HOUR 99", () -> {
             ThawWords x = twoPlaces();

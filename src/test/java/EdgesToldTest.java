@@ -4,7 +4,7 @@ public final class EdgesToldTest {
     private static final int LEAST = Edges.LEAST, GREATEST = Edges.GREATEST;
     private static final int[] BELOW = {-1, LEAST};
 
-    private static final String CHANGED = "(From NOW; nobody moves, nothing more is said, no LANTERN more; nothing is changed.)";
+    private static final String CHUNG = "(From NOW; nobody moves, nothing more is said, no LANTERN more; nothing is changed.)";
     private static final String WHEN = "WHEN: the HOUR in which SOUND i of a SAYING was or will be heard; NONE: not by HOUR 99.";
     private static final String WHOLE = "WHOLE: the HOUR of the last of its SOUNDS; NONE.";
     private static final String HOURS = "HOURS to say: of HOURS from NOW on (to NOW and 23, 99 at most) those, in which a SOUND said at a PLACE"
@@ -60,50 +60,50 @@ public final class EdgesToldTest {
 
     private static void nothingIsChanged() {
         String all = Seen.all(said());
-        t.edge(18, CHANGED, "by when()", () -> {
+        t.edge(18, CHUNG, "by when()", () -> {
             ThawWords x = said();
             t.due("when(0, 1)", x.when(0, 1), 1);
             t.due("when(1, 0)", x.when(1, 0), NONE);
             t.alike("all that is seen", Seen.all(x), all);
         });
-        t.edge(19, CHANGED, "by whole()", () -> {
+        t.edge(19, CHUNG, "by whole()", () -> {
             ThawWords x = said();
             t.due("whole(0)", x.whole(0), 2);
             t.due("whole(1)", x.whole(1), NONE);
             t.alike("all that is seen", Seen.all(x), all);
         });
-        t.edge(20, CHANGED, "by hours()", () -> {
+        t.edge(20, CHUNG, "by hours()", () -> {
             ThawWords x = said();
             t.due("hours(0, 0, 1)", x.hours(0, 0, 1), 3);
             t.alike("all that is seen", Seen.all(x), all);
         });
-        t.edge(21, CHANGED, "by fits()", () -> {
+        t.edge(21, CHUNG, "by fits()", () -> {
             ThawWords x = said();
             t.due("fits(0)", x.fits(0), 0);
             t.alike("all that is seen", Seen.all(x), all);
         });
-        t.edge(22, CHANGED, "by lanterns()", () -> {
+        t.edge(22, CHUNG, "by lanterns()", () -> {
             ThawWords x = said();
             t.due("lanterns(1, 0)", x.lanterns(1, 0), 1);
             t.due("lanterns(2, 0)", x.lanterns(2, 0), NONE);
             t.alike("all that is seen", Seen.all(x), all);
         });
-        t.edge(23, CHANGED, "by answers()", () -> {
+        t.edge(23, CHUNG, "by answers()", () -> {
             ThawWords x = said();
             t.due("answers(1, 0)", x.answers(1, 0), 0);
             t.alike("all that is seen", Seen.all(x), all);
         });
-        t.edge(24, CHANGED, "by spoke()", () -> {
+        t.edge(24, CHUNG, "by spoke()", () -> {
             ThawWords x = said();
             t.due("spoke(0)", x.spoke(0), 3);
             t.alike("all that is seen", Seen.all(x), all);
         });
-        t.edge(25, CHANGED, "by odds()", () -> {
+        t.edge(25, CHUNG, "by odds()", () -> {
             ThawWords x = said();
             t.due("odds(0, 0, 3, 6, 1)", x.odds(0, 0, 3, 6, 1), 1);
             t.alike("all that is seen", Seen.all(x), all);
         });
-        t.edge(18, CHANGED, "no LANTERN more: one that is held is out in the next HOUR", () -> {
+        t.edge(18, CHUNG, "no LANTERN more: one that is held is out in the next HOUR", () -> {
             ThawWords x = Check.capeOf("place 0;warm 0 1;warm 1 1;sound 6;person 1 0;");
             x.lantern(0);
             x.says(0, 1, 1);
@@ -211,6 +211,7 @@ public final class EdgesToldTest {
             x.says(0, 1, 2);
             t.due("whole(0)", x.whole(0), 2);
         });
+        t.edge(19, WHOLE, "a longer one was heard there ahead of anew()", () -> t.due("whole(0)", longerAheadOfAnew().whole(0), 0));
         t.edge(19, WHOLE, "all was heard by now", () -> {
             ThawWords x = said();
             x.go(99);
@@ -218,6 +219,16 @@ public final class EdgesToldTest {
             x.lantern(0);
             t.due("whole(1), in HOUR 99", x.whole(1), 99);
         });
+    }
+
+    // SAYING 0, of one SOUND, is heard in HOUR 0, where one of four was heard in HOUR 5.
+    private static ThawWords longerAheadOfAnew() {
+        ThawWords x = cape();
+        x.go(5);
+        x.says(0, 1, 4444);
+        x.anew();
+        x.says(0, 1, 4);
+        return x;
     }
 
     private static void hoursRefused() {
@@ -559,6 +570,14 @@ public final class EdgesToldTest {
             t.due("lanterns(1, 2)", x.lanterns(1, 2), 1);
             t.due("lanterns(1, 4)", x.lanterns(1, 4), 1);
         });
+        t.edge(22, LANTERNS, "another one HANGS no more, a longer one HUNG there ahead of anew()", () -> {
+            ThawWords x = threePlaces();
+            x.says(0, 1, 1111);
+            x.anew();
+            x.says(0, 1, 4);
+            x.says(0, 1, 1);
+            t.due("lanterns(2, 1)", x.lanterns(2, 1), 1);
+        });
         t.edge(22, LANTERNS, "one that isn't told on either side does not matter", () -> {
             ThawWords x = threePlaces();
             x.says(0, 1, 1);
@@ -632,6 +651,12 @@ public final class EdgesToldTest {
             x.says(0, 1, 4);
             t.due("answers(2, 0)", x.answers(2, 0), 0);
             t.due("answers(2, 1)", x.answers(2, 1), 0);
+        });
+        t.edge(23, ANSWERS, "a longer one was heard there ahead of anew()", () -> {
+            ThawWords x = longerAheadOfAnew();
+            x.go(1);
+            x.says(0, 1, 4);
+            t.due("answers(1, 0)", x.answers(1, 0), 1);
         });
         t.edge(23, ANSWERS, "it was heard since, behind the answer", () -> {
             ThawWords x = cape();
